@@ -614,9 +614,7 @@ public final class TownTrain {
         void open(int n) {
             end = n;
             at = 0;
-            start = 0;
             size = 0;
-            faultKind = 0;
             faultPlace = NONE;
         }
 

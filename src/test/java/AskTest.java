@@ -68,6 +68,9 @@ public final class AskTest {
         c.due("a stop costs a day", u.way(8, 1), 2);
         c.due("no stop", u.way(8, 2), 2);
         c.due("a day for 9", u.way(9, 1), -1);
+        TownTrain eight = Check.told("well 35;well 40;well 5;well 10;well 15;well 20;well 25;well 30;");
+        c.due("eight wells", eight.way(45, 1), 9);
+        c.due("no ninth", eight.way(46, 1), -1);
         TownTrain v = Check.told("speed 1;well 40;well 80;well 120;well 160;well 200;");
         c.due("far", v.way(240, 40), 240);
         c.due("dry", v.way(240, 39), -1);

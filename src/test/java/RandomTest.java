@@ -118,6 +118,12 @@ public final class RandomTest {
             b.append("wagon ").append(in(1, 6)).append(' ').append(in(1, 9)).append(' ').append(up(5)).append(';');
             told++;
         }
+        for (int i = 1; i < told && r.nextBoolean(); i++) {
+            b.append("needs ").append(i).append(' ').append(r.nextInt(i)).append(';');
+        }
+        if (r.nextBoolean()) {
+            b.append("hours ").append(in(10, 24)).append(';');
+        }
         int clauses = up(r.nextInt(10) == 0 ? 55 : 18);
         for (int i = 0; i < clauses && b.length() < 570; i++) {
             b.append(blank()).append(clause(told)).append(blank()).append(';');
@@ -216,6 +222,22 @@ public final class RandomTest {
         return b.toString();
     }
 
+    /** Wagons by number, so that those which need others are laid too; then some are taken up. */
+    private String orderly() {
+        StringBuilder b = new StringBuilder();
+        int cell = up(11);
+        for (int w = 0; w < wagons; w++) {
+            if (r.nextInt(4) != 0) {
+                cell = (cell + in(1, 3)) % 12;
+                b.append(r.nextInt(3) == 0 ? "fetch " + w + ";" : "").append("lay " + w + " " + cell + ";");
+            }
+        }
+        for (int i = up(3); i > 0 && wagons > 0; i--) {
+            b.append("take ").append(r.nextInt(wagons)).append(';');
+        }
+        return b.append(r.nextBoolean() ? "day;" : "").toString();
+    }
+
     private String lines() {
         StringBuilder b = new StringBuilder();
         int many = r.nextInt(12) == 0 ? up(10) : up(3);
@@ -233,7 +255,7 @@ public final class RandomTest {
         } else if (k < 5) {
             tell("law", feed(fit(spoilt(expr(0), 6), 150)));
         } else if (k < 14) {
-            tell("work", feed(fit(spoilt(steps(0, up(8)), 12), 150)));
+            tell("work", feed(fit(spoilt(r.nextBoolean() ? orderly() : steps(0, up(8)), 12), 150)));
             ask("refused", () -> x.told(9), () -> m.told(9));
         } else if (k < 18) {
             tell("book", feed(fit(spoilt(lines(), 12), 60)));

@@ -80,6 +80,8 @@ public final class TextsTest {
         c.trainText("wagon 110;", -8, 6);
         c.trainText("wagonwagon 1 1 0;", -9, 0);
         c.trainText("wago", -9, 0);
+        c.trainText("frostz 4;", -9, 0);
+        c.trainText("afrost 4;", -9, 0);
         c.trainText("Wagon 1 1 0;", -9, 0);
         c.trainText("wagon 1 1 0", -9, 11);
         c.trainText("wagon 1 1 0  ", -9, 13);
@@ -190,6 +192,8 @@ public final class TextsTest {
         TownTrain x = new TownTrain();
         Check.put(x, "1" + "+1".repeat(75));
         c.badArgument("law of 151", () -> x.law(151));
+        c.badArgument("work of 151", () -> x.work(151));
+        c.badArgument("book of 61", () -> x.book(61));
         c.due("law of 150 of them", x.law(150), -9);
         c.due("its fault", x.fault(), 150);
     }
@@ -241,6 +245,7 @@ public final class TextsTest {
         c.bookText(eight + "7 0;", -8, 32);
         c.bookText(eight + "12 0;", -8, 32);
         c.bookText(eight + "day", -9, 32);
+        c.bookText(eight + " ".repeat(28), 8, -1);
     }
 
     private static void faultsKeepAll() {

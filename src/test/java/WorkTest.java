@@ -117,6 +117,13 @@ public final class WorkTest {
         c.due("laid", x.told(6), 0);
         c.due("empty", x.stands(3), -1);
         c.due("on the train", x.wagon(0, 3), 0);
+        TownTrain needed = Check.told(TOWN);
+        c.due("needed by one that is laid", Check.work(needed, "lay 0 3;lay 2 4;take 0;"), 2);
+        c.due("it stays laid", needed.stands(3), 0);
+        c.due("hours stay", needed.told(5), 5);
+        TownTrain last = Check.told("wagon 1 1 0;".repeat(8) + "needs 7 6;hours 24;");
+        c.due("needed by the last", Check.work(last, "lay 6 0;lay 7 1;take 6;"), 2);
+        c.due("not needed any more", Check.work(last, "take 7;take 6;"), 2);
         TownTrain y = Check.told("wagon 1 1 0;wagon 5 1 0;hours 8;");
         c.due("take", Check.work(y, "lay 1 0;lay 0 1;take 1;take 0;"), 3);
         c.due("hours of half of 5", y.told(5), 0);
