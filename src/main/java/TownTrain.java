@@ -1175,8 +1175,8 @@ public final class TownTrain {
                 case SUBTRACT: return left - right;
                 case TIMES: return left * right;
                 case DIVIDE: return right == 0 ? 0 : left / right;
-                case JOIN_LEAST: return Math.min(left, right);
-                default: return Math.max(left, right);
+                case JOIN_LEAST: return left < right ? left : right;
+                default: return left > right ? left : right;
             }
         }
     }

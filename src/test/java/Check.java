@@ -1,3 +1,4 @@
+import java.util.BitSet;
 import java.util.NoSuchElementException;
 
 /** What the tests share: feeding of texts, answers as numbers, and the count of wrong ones. */
@@ -9,8 +10,30 @@ final class Check {
         long ask();
     }
 
+    interface IntCall {
+        long ask(int argument);
+    }
+
     private int asked = 0;
     private int wrong = 0;
+    private int tests = 0;
+    private String label = "";
+    private final BitSet promises = new BitSet();
+
+    /** One sentence of the document, or a part of it, with the promise that it belongs to and what must hold by it. */
+    void test(int promise, String sentence, Runnable body) {
+        tests++;
+        promises.set(promise);
+        label = "promise " + promise + ", '" + sentence + "': ";
+        int before = asked;
+        try {
+            body.run();
+        } catch (RuntimeException e) {
+            due("a call that threw " + e, 1, 0);
+        }
+        due("the test asks something", asked > before ? 1 : 0, 1);
+        label = "";
+    }
 
     /** Puts a text on the tape, filled up with zeros to a whole feed: how long the text is. */
     static int put(TownTrain x, String text) {
@@ -71,7 +94,7 @@ final class Check {
         asked++;
         if (got != want) {
             wrong++;
-            System.out.println(what + ": answered " + shown(got) + ", due is " + shown(want));
+            System.out.println(label + what + ": answered " + shown(got) + ", due is " + shown(want));
         }
     }
 
@@ -81,6 +104,36 @@ final class Check {
 
     void badArgument(String what, Call call) {
         due(what, answer(call), BAD_ARGUMENT);
+    }
+
+    /** Answers for 0, 1, and so on. */
+    void row(String what, IntCall call, long... want) {
+        for (int i = 0; i < want.length; i++) {
+            int each = i;
+            due(what + " " + i, answer(() -> call.ask(each)), want[i]);
+        }
+    }
+
+    /** An argument's range: both its ends are taken, what is beyond them is refused. */
+    void range(String what, IntCall call, int least, int most) {
+        for (int end : new int[] {least, most}) {
+            long got = answer(() -> call.ask(end));
+            due(what + " " + end + " is taken", got == NO_ELEMENT || got == BAD_ARGUMENT ? 0 : 1, 1);
+        }
+        for (int beyond : new int[] {least - 1, most + 1, Integer.MIN_VALUE, Integer.MAX_VALUE}) {
+            badArgument(what + " " + beyond, () -> call.ask(beyond));
+        }
+    }
+
+    /** A wagon's number: the first and the last are taken, what is beyond them is no such element. */
+    void wagons(String what, IntCall call, int many) {
+        for (int end : new int[] {0, many - 1}) {
+            long got = answer(() -> call.ask(end));
+            due(what + " " + end + " is taken", got == NO_ELEMENT || got == BAD_ARGUMENT ? 0 : 1, 1);
+        }
+        for (int beyond : new int[] {-1, many, Integer.MIN_VALUE, Integer.MAX_VALUE}) {
+            noElement(what + " " + beyond, () -> call.ask(beyond));
+        }
     }
 
     /** A text of a train, with the answer and the place of the fault that are due. */
@@ -108,7 +161,12 @@ final class Check {
         due("fault of book '" + text + "'", x.fault(), place);
     }
 
-    void end(String name) {
+    /** The end of a file that has a test for each of some promises. */
+    void end(String name, int... ofPromises) {
+        for (int promise : ofPromises) {
+            due("tests of promise " + promise, promises.get(promise) ? 1 : 0, 1);
+        }
+        System.out.print(tests == 0 ? "" : name + ": " + tests + " sentences\n");
         System.out.println(name + ": " + asked + " answers, " + wrong + " wrong");
         if (wrong != 0) {
             System.exit(1);
