@@ -1,4 +1,5 @@
 import java.io.IOException;
+import java.lang.reflect.Field;
 import java.lang.reflect.Method;
 import java.lang.reflect.Modifier;
 import java.nio.file.Files;
@@ -27,6 +28,10 @@ public final class RulesTest {
         words(text);
         lengths(text);
         names(text);
+        library(text);
+        staticFields();
+        throwsOnly(text);
+        madeByMethods(text);
         c.end("RulesTest");
     }
 
@@ -94,6 +99,59 @@ public final class RulesTest {
         while (m.find()) {
             if (!m.group(2).contains("public") && face.contains(m.group(3))) {
                 c.due("a name of the face: " + m.group(3), 1, 0);
+            }
+        }
+    }
+
+    /** Rule 4: nothing of the library but what the class is known to use, all of which the rule lists. */
+    private static void library(String text) {
+        Set<String> imports = Set.of("java.util.Arrays", "java.util.NoSuchElementException");
+        Matcher m = Pattern.compile("\nimport ([^;]+);").matcher("\n" + text);
+        while (m.find()) {
+            c.due("import of " + m.group(1), imports.contains(m.group(1)) ? 1 : 0, 1);
+        }
+        Set<String> calls = Set.of("Math.min", "Math.max", "Math.abs", "Integer.bitCount", "Long.MAX_VALUE",
+            "Arrays.fill", "System.arraycopy");
+        m = Pattern.compile("\\b(?:Math|Integer|Long|Short|Byte|Character|Boolean|Double|Float|Arrays|System|String"
+            + "|StringBuilder|List|Objects)\\.\\w+").matcher(text.replaceAll("import [^;]+;", ""));
+        while (m.find()) {
+            c.due("call of " + m.group(), calls.contains(m.group()) ? 1 : 0, 1);
+        }
+    }
+
+    /** Rule 5: no state but in objects. */
+    private static void staticFields() {
+        Set<String> types = Set.of("int", "long", "boolean", "char", "java.lang.String");
+        List<Class<?>> classes = new ArrayList<>(Arrays.asList(TownTrain.class.getDeclaredClasses()));
+        classes.add(TownTrain.class);
+        for (Class<?> each : classes) {
+            for (Field f : each.getDeclaredFields()) {
+                if (Modifier.isStatic(f.getModifiers())) {
+                    c.due("final " + f, Modifier.isFinal(f.getModifiers()) ? 1 : 0, 1);
+                    c.due("type of " + f, types.contains(f.getType().getName()) ? 1 : 0, 1);
+                }
+            }
+        }
+    }
+
+    /** Rule 6: only the two exceptions that the document names, each with a written text. */
+    private static void throwsOnly(String text) {
+        Pattern written = Pattern.compile("throw new (IllegalArgument|NoSuchElement)Exception\\(\"[^\"]*\"\\);");
+        for (String line : text.split("\n")) {
+            if (line.matches(".*\\bthrow\\b.*")) {
+                c.due("throw: " + line.trim(), written.matcher(line.trim()).matches() ? 1 : 0, 1);
+            }
+        }
+    }
+
+    /** Rule 12: rows are made with the object; a method makes a town at most, so that a run stays small. */
+    private static void madeByMethods(String text) {
+        for (String line : text.split("\n")) {
+            boolean field = line.matches(" +private (final )?[A-Za-z]+(\\[\\])? \\w+ = new .*;");
+            boolean thrown = line.trim().startsWith("throw new ");
+            boolean told = line.trim().startsWith("/*") || line.trim().startsWith("*") || line.contains("//");
+            if (line.matches(".*\\bnew\\b.*") && !field && !thrown && !told) {
+                c.due("made by a method: " + line.trim(), line.contains("new Town()") ? 1 : 0, 1);
             }
         }
     }
