@@ -1598,7 +1598,7 @@ public final class TownTrain {
     private static final class BestTown {
         private static final int CELL_BITS = 4;
         private static final int COST_SHIFT = CELL_BITS * MOST_BEST;
-        private static final long UNREACHED = Long.MAX_VALUE;
+        private static final long UNREACHED = 1L << 62;
 
         private final long[] least = new long[1 << MOST_BEST];
         private final int[] cut = new int[1 << MOST_BEST];
@@ -1694,7 +1694,7 @@ public final class TownTrain {
     private static final class Loading {
         private static final int WAGON_BITS = 3;
         private static final int SUM_SHIFT = WAGON_BITS * MOST_WAGONS;
-        private static final long UNREACHED = Long.MAX_VALUE;
+        private static final long UNREACHED = 1L << 62;
 
         private final long[] least = new long[1 << MOST_WAGONS];
         private boolean found;

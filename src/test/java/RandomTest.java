@@ -238,6 +238,19 @@ public final class RandomTest {
         return b.append(r.nextBoolean() ? "day;" : "").toString();
     }
 
+    /** So many days that the last one, 200, comes into reach; or so many steps that some are left out. */
+    private String far() {
+        int inner = in(1, 20);
+        return "again " + in(5, 20) + "[again " + inner + "[day;];" + blank() + (inner < 5 ? orderly() : "") + "];";
+    }
+
+    private String aWork() {
+        if (r.nextInt(8) == 0) {
+            return far();
+        }
+        return r.nextBoolean() ? orderly() : steps(0, up(8));
+    }
+
     private String lines() {
         StringBuilder b = new StringBuilder();
         int many = r.nextInt(12) == 0 ? up(10) : up(3);
@@ -255,7 +268,7 @@ public final class RandomTest {
         } else if (k < 5) {
             tell("law", feed(fit(spoilt(expr(0), 6), 150)));
         } else if (k < 14) {
-            tell("work", feed(fit(spoilt(r.nextBoolean() ? orderly() : steps(0, up(8)), 12), 150)));
+            tell("work", feed(fit(spoilt(aWork(), 12), 150)));
             ask("refused", () -> x.told(9), () -> m.told(9));
         } else if (k < 18) {
             tell("book", feed(fit(spoilt(lines(), 12), 60)));

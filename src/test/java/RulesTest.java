@@ -110,8 +110,8 @@ public final class RulesTest {
         while (m.find()) {
             c.due("import of " + m.group(1), imports.contains(m.group(1)) ? 1 : 0, 1);
         }
-        Set<String> calls = Set.of("Math.min", "Math.max", "Math.abs", "Integer.bitCount", "Long.MAX_VALUE",
-            "Arrays.fill", "System.arraycopy");
+        Set<String> calls = Set.of("Math.min", "Math.max", "Math.abs", "Integer.bitCount", "Arrays.fill",
+            "System.arraycopy");
         m = Pattern.compile("\\b(?:Math|Integer|Long|Short|Byte|Character|Boolean|Double|Float|Arrays|System|String"
             + "|StringBuilder|List|Objects)\\.\\w+").matcher(text.replaceAll("import [^;]+;", ""));
         while (m.find()) {
